@@ -200,7 +200,8 @@ public final class FoxHoles {
         if (k < -1) {
             return BAD;
         }
-        return k == -1 ? hunt.mornings() : hunt.lookAt(k);
+        int mornings = hunt.mornings();
+        return k == -1 ? mornings : hunt.lookAt(k);
     }
 
     public int sureFrom(int set, int t) {
@@ -1019,9 +1020,10 @@ public final class FoxHoles {
         }
 
         int openWeight() {
+            int open = openOnes();
             int sum = 0;
             for (int h = 0; h < size; h++) {
-                sum += weightIfOpen(h);
+                sum += (open >> h & 1) == 1 ? weights[h] : 0;
             }
             return sum;
         }
@@ -1243,7 +1245,7 @@ public final class FoxHoles {
         private static final int HALF = 5, HALF_SETS = 1 << HALF;
 
         private final Warren warren;
-        /** How each state was reached first: the state ahead and the looks; -1: not reached. */
+        /** How each state was reached first: 1 more than the state ahead with the looks; 0: not reached. */
         private final int[] trail = new int[STATES];
         private final int[] queue = new int[STATES];
         private int queued;
@@ -1251,21 +1253,22 @@ public final class FoxHoles {
         private final int[] lowNights = new int[HALF_SETS];
         private final int[] highNights = new int[HALF_SETS];
         private int open;
+        /** Looks where it cannot be never make a hunt shorter: only the first row may have them. */
+        private boolean rowWanted;
         private int end;
         private int found;
         private int foundVersion = -1;
 
         Hunt(Warren warren) {
             this.warren = warren;
-            for (int i = 0; i < STATES; i++) {
-                trail[i] = -1;
-            }
         }
 
         int mornings() {
             if (foundVersion != warren.version) {
                 layOut(warren.openOnes());
+                rowWanted = true;
                 found = search(open, 0, STATES);
+                rowWanted = false;
                 foundVersion = warren.version;
             }
             return found;
@@ -1277,28 +1280,24 @@ public final class FoxHoles {
             return search(set & open, day, STATES);
         }
 
-        /** The k-th look of the first row. */
+        /** The k-th look of the first row, once mornings() has found it. */
         int lookAt(int k) {
-            int all = mornings();
-            int morning = k / 2;
-            boolean second = k % 2 == 1;
-            if (warren.lookers == 1) {
-                morning = k;
-                second = false;
-            }
-            if (k < 0 || morning >= all) {
+            boolean two = warren.lookers == 2;
+            int morning = two ? k / 2 : k;
+            if (k < 0 || morning >= found) {
                 return NOT;
             }
             int step = end;
-            for (int i = all - 1; i > morning; i--) {
+            for (int i = found - 1; i > morning; i--) {
                 step = stepInto(step / ACTIONS);
             }
-            int look = second ? step % ACTIONS % LOOKS : step % ACTIONS / LOOKS;
+            int action = step % ACTIONS;
+            int look = two && k % 2 == 1 ? action % LOOKS : action / LOOKS;
             return look == NO_LOOK ? NOT : look;
         }
 
         private int stepInto(int state) {
-            return state >= 0 && state < STATES ? Math.max(trail[state], 0) : 0;
+            return state >= 0 && state < STATES ? Math.max(trail[state] - 1, 0) : 0;
         }
 
         /** Fewer holes are tried first, then those of the least bits. */
@@ -1348,7 +1347,7 @@ public final class FoxHoles {
                 return 0;
             }
             for (int i = 0; i < queued; i++) {
-                trail[queue[i]] = -1;
+                trail[queue[i]] = 0;
             }
             queued = 0;
             int week = warren.sleep == 0 ? 1 : WEEK;
@@ -1374,22 +1373,24 @@ public final class FoxHoles {
             if (warren.sleepsOn(day)) {
                 return tryLooks(set, base, step + NO_LOOK * LOOKS + NO_LOOK);
             }
-            boolean two = warren.lookers == 2 && Integer.bitCount(open) > 1;
+            int choice = rowWanted ? open : set;
+            boolean two = warren.lookers == 2 && Integer.bitCount(choice) > 1;
             for (int a = 0; a < HOLES; a++) {
-                if ((open >> a & 1) == 0) {
+                if ((choice >> a & 1) == 0) {
                     continue;
                 }
                 int rest = set & ~(1 << a);
-                if (two ? trySecond(rest, a, base, step) : tryLooks(rest, base, step + a * LOOKS + NO_LOOK)) {
+                int by = step + a * LOOKS;
+                if (two ? trySecond(choice >> a + 1 << a + 1, rest, base, by) : tryLooks(rest, base, by + NO_LOOK)) {
                     return true;
                 }
             }
             return false;
         }
 
-        private boolean trySecond(int rest, int a, int base, int step) {
-            for (int b = a + 1; b < HOLES; b++) {
-                if ((open >> b & 1) == 1 && tryLooks(rest & ~(1 << b), base, step + a * LOOKS + b)) {
+        private boolean trySecond(int choice, int rest, int base, int step) {
+            for (int b = 0; b < HOLES; b++) {
+                if ((choice >> b & 1) == 1 && tryLooks(rest & ~(1 << b), base, step + b)) {
                     return true;
                 }
             }
@@ -1406,8 +1407,8 @@ public final class FoxHoles {
         }
 
         private void reach(int state, int step) {
-            if (state >= 0 && state < STATES && trail[state] < 0 && queued < STATES) {
-                trail[state] = step;
+            if (state >= 0 && state < STATES && trail[state] == 0 && queued < STATES) {
+                trail[state] = step + 1;
                 queue[queued++] = state;
             }
         }

@@ -35,6 +35,7 @@ public final class Promises {
         hideAndLook();
         imageAndBack();
         undoAndRedo();
+        manyChanges();
         bodies();
         keepAndRow();
         putAndElement();
@@ -300,6 +301,9 @@ public final class Promises {
             "a*b/p%w+n-1", "a|b&p", "((((((a)+1)+1)+1)+1)+1)*-!-!-!n", "1?2;3?4;5"}) {
             fault(good, -1);
         }
+        fault("a?((((((b))))))", -1);
+        fault("a;((((((b))))))?!!!!!!b", -1);
+        fault("a?(((((((b", 8);
         fault("12345", 4);
         fault("00000", 4);
         fault("ab", 1);
@@ -406,6 +410,9 @@ public final class Promises {
         goes("!!w=1", 3, 3, 3);
         goes("1+2*3=7", 7, 7, 7);
         goes("1<2&b=0", 1, 1, 1);
+        goes("12=3*4", 7, 7, 7);
+        goes("1234=1000+234", 7, 7, 7);
+        goes("0090=9*10", 7, 7, 7);
         goes("a=1?b=1;p", 2, 2, 2);
         goes("a=1?0;p", 2, 0, 2);
         goes("a=0?1;a=1?p", 7, 5, 0);
@@ -567,6 +574,17 @@ public final class Promises {
         due("looks of shorts", -12, x.ahead(11, 1));
         due("shelf 6", BAD, x.ahead(61, 1));
         due("below 0", BAD, x.ahead(-5, 1));
+        long[] none = new long[60];
+        java.util.Arrays.fill(none, 9);
+        looks(x, 0, none);
+        row(x, 1, 1, none);
+        x.put(1, 0, 1);
+        for (int i = 1; i < 60; i++) {
+            x.put(1, i, 7);
+        }
+        due("of the first of 60", 1, x.ahead(1, 1));
+        due("of the last of 60", 2, x.ahead(1, 60));
+        due("behind all", 2, x.printed(1, 60));
         FoxHoles two = line(2);
         looks(two, 0, 0, 9, 9, 9, 1);
         row(two, 1, 1);
@@ -812,6 +830,10 @@ public final class Promises {
         due("all go to 4", 29, x.kept(0));
         due("all go to 4, looked into", 0, x.kept(16));
         due("one on the way only", 24, x.kept(5));
+        FoxHoles on = warren(10);
+        law(on, "b=a+1");
+        due("all come to the last", 0, on.kept(512));
+        due("but for it they stay there", 1022, on.kept(1));
     }
 
     // ---- at random
@@ -1223,6 +1245,42 @@ public final class Promises {
         due("39 then", 39, many.count(4));
         due("back again", 38, many.undo());
         due("to what it was", 5, many.of(0, 0));
+    }
+
+    private static int[] told(FoxHoles x) {
+        return new int[] {x.of(0, 0), x.of(0, 1), x.of(1, 0), x.of(1, 1), x.of(2, 0), x.of(2, 1), x.of(0, 10), x.of(0, 11)};
+    }
+
+    private static void sameTold(int[] want, int[] got) {
+        for (int i = 0; i < want.length; i++) {
+            due("told number " + i, want[i], got[i]);
+        }
+    }
+
+    private static void manyChanges() {
+        promise = 30;
+        FoxHoles x = line(3);
+        int[][] all = new int[61][];
+        all[0] = told(x);
+        for (int i = 1; i <= 60; i++) {
+            int what = i * 7 % 4;
+            int number = what < 2 ? i % 3 : 0;
+            int was = what < 2 ? x.of(number, what) : x.of(0, 8 + what);
+            int v = what == 0 ? (was + 3) % 10 : what == 1 ? 1 - was : what == 2 ? 3 - was : (was + 11) % 128;
+            due("mend", was, x.mend(number, what, v));
+            all[i] = told(x);
+        }
+        for (int i = 59; i >= 20; i--) {
+            due("undo", i - 20, x.undo());
+            sameTold(all[i], told(x));
+        }
+        due("no more", STATE, x.undo());
+        promise = 31;
+        for (int i = 21; i <= 60; i++) {
+            due("redo", 60 - i, x.redo());
+            sameTold(all[i], told(x));
+        }
+        due("no more", STATE, x.redo());
     }
 
     // ---- acts, shelves

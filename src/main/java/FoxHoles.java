@@ -777,7 +777,7 @@ public final class FoxHoles {
                 return joined;
             }
             top = 0;
-            for (int i = 0; i < codeSize; i++) {
+            for (int i = 0, steps = 0; i < codeSize && steps < CODE; i++, steps++) {
                 int sign = code[i];
                 if (sign == LINE_END) {
                     return pop();
@@ -1303,6 +1303,7 @@ public final class FoxHoles {
         /** Fewer holes are tried first, then those of the least bits. */
         int fewestStops(int m) {
             foundVersion = -1;
+            int looks = looksWithin(m);
             int all = warren.openOnes();
             int most = Integer.bitCount(all);
             for (int size = 0; size < most; size++) {
@@ -1310,13 +1311,43 @@ public final class FoxHoles {
                     if ((set & ~all) != 0 || Integer.bitCount(set) != size) {
                         continue;
                     }
-                    layOut(all & ~set);
+                    open = all & ~set;
+                    if (foxesApart() > looks) {
+                        continue;
+                    }
+                    layOut(open);
                     if (search(open, 0, m) >= 0) {
                         return set;
                     }
                 }
             }
             return all;
+        }
+
+        private int looksWithin(int mornings) {
+            int looks = 0;
+            for (int day = 0; day < mornings; day++) {
+                looks += warren.sleepsOn(day) ? 0 : warren.lookers;
+            }
+            return looks;
+        }
+
+        /** Foxes that can stay, or change places by twos, for ever: each takes a look of its own to be caught. */
+        private int foxesApart() {
+            int free = open;
+            for (int a = 0; a < HOLES; a++) {
+                if ((free >> a & 1) == 0) {
+                    continue;
+                }
+                int next = nextOf(a) & free;
+                for (int b = a; b < HOLES; b++) {
+                    if ((next >> b & 1) == 1 && (nextOf(b) >> a & 1) == 1) {
+                        free &= ~(1 << a | 1 << b);
+                        break;
+                    }
+                }
+            }
+            return Integer.bitCount(open & ~free);
         }
 
         /** Makes the nights ready for a warren of which only these holes are open. */
@@ -1505,6 +1536,8 @@ public final class FoxHoles {
 
         private final Warren warren;
         private final Looks looks;
+        /** Where a night leads from each hole, all alike likely; made ready at the beginning. */
+        private final int[] ways = new int[HOLES];
         private final long[][] layers = new long[MOST_LUCKIEST][HOLES];
         private long[] now = new long[HOLES];
         private long[] later = new long[HOLES];
@@ -1539,6 +1572,8 @@ public final class FoxHoles {
             for (int h = 0; h < HOLES; h++) {
                 likelihoods[h] = warren.weightIfOpen(h);
                 sum += likelihoods[h];
+                int near = warren.openNear(h);
+                ways[h] = near != 0 ? near : 1 << h;
             }
             return sum;
         }
@@ -1569,18 +1604,13 @@ public final class FoxHoles {
                 to[h] = 0;
             }
             for (int h = 0; h < HOLES; h++) {
-                if (from[h] == 0) {
+                int many = Integer.bitCount(ways[h]);
+                if (from[h] == 0 || many == 0) {
                     continue;
                 }
-                int near = warren.openNear(h);
-                int ways = Integer.bitCount(near);
-                if (ways == 0) {
-                    near = 1 << h;
-                    ways = 1;
-                }
-                long share = from[h] * (TWELFTHS / ways);
+                long share = from[h] * (TWELFTHS / many);
                 for (int b = 0; b < HOLES; b++) {
-                    if ((near >> b & 1) == 1) {
+                    if ((ways[h] >> b & 1) == 1) {
                         to[b] += share;
                     }
                 }

@@ -159,29 +159,26 @@ public final class FoxHoles {
     }
 
     public int printed(int lp, int k) {
-        if (!areTwoShelves(lp) || k < 0) {
-            return BAD;
-        }
-        Shelf told = shelves[lp / 10];
-        Shelf prints = shelves[lp % 10];
-        int refusal = refusalOfBoth(told, prints, SHORTS);
-        if (refusal != 0) {
-            return refusal;
-        }
-        return k > looks.mornings(told) ? BAD : looks.behind(told, prints, k);
+        int refusal = refusalOfPrints(lp, k, 0);
+        return refusal != 0 ? refusal : looks.behind(shelves[lp / 10], shelves[lp % 10], k);
     }
 
     public int ahead(int lp, int k) {
-        if (!areTwoShelves(lp) || k < 1) {
+        int refusal = refusalOfPrints(lp, k, 1);
+        return refusal != 0 ? refusal : looks.before(shelves[lp / 10], shelves[lp % 10], k);
+    }
+
+    /** 0: both shelves are as they must be, and k is a morning of the looks, least or later. */
+    private int refusalOfPrints(int lp, int k, int least) {
+        if (!areTwoShelves(lp) || k < least) {
             return BAD;
         }
         Shelf told = shelves[lp / 10];
-        Shelf prints = shelves[lp % 10];
-        int refusal = refusalOfBoth(told, prints, SHORTS);
+        int refusal = refusalOfBoth(told, shelves[lp % 10], SHORTS);
         if (refusal != 0) {
             return refusal;
         }
-        return k > looks.mornings(told) ? BAD : looks.before(told, prints, k);
+        return k > looks.mornings(told) ? BAD : 0;
     }
 
     public int judge(int lw) {

@@ -663,6 +663,12 @@ public final class Promises {
         due("sure(most)", NOT, ring.sure(Integer.MAX_VALUE));
         ring.mend(0, 2, 2);
         rowOfSure(ring, 2, 0, 1, 0, 1);
+        FoxHoles between = line(5);
+        due("sure(-1)", 6, between.sure(-1));
+        due("a set between", 1, between.sureFrom(16, 0));
+        due("sure(2)", 3, between.sure(2));
+        due("stops between", 0, between.toStop(6));
+        due("sure(5)", 3, between.sure(5));
         FoxHoles two = line(1);
         two.mend(0, 2, 2);
         rowOfSure(two, 1, 0, NOT);

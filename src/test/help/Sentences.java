@@ -6,7 +6,7 @@ import java.util.ArrayList;
 import java.util.List;
 
 /**
- * What tests of the document's sentences need. A test names the sentence that it tests by the document's own words:
+ * What tests of the document's promises and sentences need. A test of a sentence names it by the document's own words:
  * words that do not stand there are a fault, and so is a sentence that no test has named.
  */
 abstract class Sentences {
@@ -69,6 +69,11 @@ abstract class Sentences {
         }
     }
 
+    /** Begins tests of a promise as a whole. */
+    static void about(int promise) {
+        sentence = "promise " + promise;
+    }
+
     /** Every sentence of these sections must have been named, but for those that begin so. */
     static void allNamed(int first, int last, String... beside) {
         for (int section = first; section <= last; section++) {
@@ -113,7 +118,8 @@ abstract class Sentences {
     }
 
     static void end() {
-        System.out.println(wrong == 0 ? sentences + " sentences hold, by " + checks + " answers" : wrong + " faults");
+        String what = sentences > 0 ? sentences + " sentences hold, by " : "";
+        System.out.println(wrong == 0 ? what + checks + " answers that are due" : wrong + " faults");
         if (wrong != 0) {
             System.exit(1);
         }

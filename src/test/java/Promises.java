@@ -1,11 +1,5 @@
 /** Each promise of the document by its number: ordinary calls, the edges that it names, wrong calls. */
-public final class Promises {
-    private static final int BAD = -1, NOT = -2, FULL = -3, STATE = -5, VOID = -2000000000;
-    private static final long LEAST = Long.MIN_VALUE;
-    private static int promise;
-    private static int checks;
-    private static int wrong;
-
+public final class Promises extends Sentences {
     public static void main(String[] args) {
         newObject();
         hole();
@@ -42,79 +36,13 @@ public final class Promises {
         shift();
         taken();
         count();
-        System.out.println(wrong == 0 ? checks + " answers are as promised" : wrong + " answers are not as promised");
-        if (wrong != 0) {
-            System.exit(1);
-        }
-    }
-
-    private static void due(String call, long want, long got) {
-        checks++;
-        if (want != got) {
-            wrong++;
-            System.out.println("promise " + promise + ": " + call + " answered " + got + ", due is " + want);
-        }
-    }
-
-    // ---- what many need
-
-    private static FoxHoles holesOf(int... weights) {
-        FoxHoles x = new FoxHoles();
-        for (int w : weights) {
-            x.hole(w);
-        }
-        return x;
-    }
-
-    private static FoxHoles warren(int n, int... paths) {
-        FoxHoles x = new FoxHoles();
-        for (int i = 0; i < n; i++) {
-            x.hole(1);
-        }
-        for (int ab : paths) {
-            due("path(" + ab + ") is laid", 1, x.path(ab) > 0 ? 1 : 0);
-        }
-        return x;
-    }
-
-    private static FoxHoles line(int n) {
-        int[] paths = new int[n - 1];
-        for (int i = 0; i + 1 < n; i++) {
-            paths[i] = i * 10 + i + 1;
-        }
-        return warren(n, paths);
-    }
-
-    private static void row(FoxHoles x, int shelf, int sort, long... elements) {
-        due("row", 1, x.row(shelf, sort, elements.length));
-        for (int i = 0; i < elements.length; i++) {
-            due("put", 1, x.put(shelf, i, elements[i]));
-        }
-    }
-
-    private static void looks(FoxHoles x, int shelf, long... looks) {
-        row(x, shelf, 0, looks);
-    }
-
-    private static int law(FoxHoles x, String text) {
-        for (int i = 0; i < text.length(); i++) {
-            x.feed(text.charAt(i));
-        }
-        return x.law();
-    }
-
-    private static void rowOfSure(FoxHoles x, int mornings, int... looks) {
-        due("sure(-1)", mornings, x.sure(-1));
-        for (int k = 0; k < looks.length; k++) {
-            due("sure(" + k + ")", looks[k], x.sure(k));
-        }
-        due("sure(" + looks.length + ")", NOT, x.sure(looks.length));
+        end();
     }
 
     // ---- holes, paths
 
     private static void newObject() {
-        promise = 1;
+        about(1);
         FoxHoles x = new FoxHoles();
         for (int what = 0; what <= 6; what++) {
             due("count(" + what + ")", 0, x.count(what));
@@ -135,7 +63,7 @@ public final class Promises {
     }
 
     private static void hole() {
-        promise = 2;
+        about(2);
         FoxHoles x = new FoxHoles();
         due("hole(-1)", BAD, x.hole(-1));
         due("hole(10)", BAD, x.hole(10));
@@ -153,7 +81,7 @@ public final class Promises {
     }
 
     private static void holes() {
-        promise = 3;
+        about(3);
         FoxHoles x = new FoxHoles();
         due("a missing row", 0, x.holes(0, 0, 3));
         due("shelf -1", BAD, x.holes(-1, 0, 3));
@@ -185,7 +113,7 @@ public final class Promises {
     }
 
     private static void path() {
-        promise = 4;
+        about(4);
         FoxHoles x = warren(10);
         due("like ends", BAD, x.path(33));
         due("below 0", BAD, x.path(-1));
@@ -213,7 +141,7 @@ public final class Promises {
     }
 
     private static void mend() {
-        promise = 5;
+        about(5);
         FoxHoles x = line(3);
         due("weight", 1, x.mend(2, 0, 9));
         due("weight again", 9, x.mend(2, 0, 0));
@@ -245,7 +173,7 @@ public final class Promises {
     }
 
     private static void of() {
-        promise = 6;
+        about(6);
         FoxHoles x = line(4);
         x.mend(3, 0, 7);
         x.mend(0, 1, 1);
@@ -272,7 +200,7 @@ public final class Promises {
     }
 
     private static void feed() {
-        promise = 7;
+        about(7);
         FoxHoles x = new FoxHoles();
         due("feed(-1)", BAD, x.feed(-1));
         due("feed(256)", BAD, x.feed(256));
@@ -294,7 +222,7 @@ public final class Promises {
     }
 
     private static void lawFaults() {
-        promise = 8;
+        about(8);
         fault("", 0);
         for (String good : new String[] {"p", "a", "b", "w", "n", "0", "9999", "0000", "a;b", "a?b", "a?b;n",
             "!a", "-a", "!-!-!-a", "!!!!!!9", "((((((a))))))", "-(-(-(1)))", "a--b", "a-(-b)", "1<2|3>4&5=6", "(1<2)<3",
@@ -374,7 +302,7 @@ public final class Promises {
     }
 
     private static void lawWorth() {
-        promise = 8;
+        about(8);
         goes("p", 2, 5, 2);
         goes("a=b", 1, 2, 4);
         goes("a", 0, 7, 7);
@@ -451,7 +379,7 @@ public final class Promises {
     // ---- looks told
 
     private static void mayBe() {
-        promise = 9;
+        about(9);
         FoxHoles x = line(3);
         looks(x, 0, 1, 1, 9, -1);
         due("at first", 7, x.mayBe(0, 0));
@@ -494,7 +422,7 @@ public final class Promises {
     }
 
     private static void caught() {
-        promise = 10;
+        about(10);
         FoxHoles x = line(3);
         looks(x, 0, 0, 1, 1, 0);
         due("caught", 3, x.caught(0));
@@ -520,7 +448,7 @@ public final class Promises {
     }
 
     private static void printed() {
-        promise = 11;
+        about(11);
         FoxHoles x = line(3);
         looks(x, 0, 9, 9, 9);
         row(x, 1, 1, 1);
@@ -549,7 +477,7 @@ public final class Promises {
     }
 
     private static void ahead() {
-        promise = 12;
+        about(12);
         FoxHoles x = line(3);
         looks(x, 0, 9, 9, 9);
         row(x, 1, 1, 7, 7, 1);
@@ -597,7 +525,7 @@ public final class Promises {
     }
 
     private static void judge() {
-        promise = 13;
+        about(13);
         FoxHoles x = line(4);
         looks(x, 0, 3, 0, 9);
         looks(x, 1, 0, 1, 2, 3, 2, 1);
@@ -649,20 +577,20 @@ public final class Promises {
     // ---- surely
 
     private static void sure() {
-        promise = 14;
-        rowOfSure(new FoxHoles(), 0);
-        rowOfSure(line(1), 1, 0);
-        rowOfSure(line(2), 2, 0, 0);
-        rowOfSure(line(3), 2, 1, 1);
-        rowOfSure(line(4), 4, 1, 2, 2, 1);
-        rowOfSure(line(5), 6, 1, 2, 3, 1, 2, 3);
+        about(14);
+        sureRow(new FoxHoles(), 0);
+        sureRow(line(1), 1, 0);
+        sureRow(line(2), 2, 0, 0);
+        sureRow(line(3), 2, 1, 1);
+        sureRow(line(4), 4, 1, 2, 2, 1);
+        sureRow(line(5), 6, 1, 2, 3, 1, 2, 3);
         FoxHoles ring = warren(3, 1, 12, 20);
-        rowOfSure(ring, NOT);
+        sureRow(ring, NOT);
         due("sure(-2)", BAD, ring.sure(-2));
         due("sure(least)", BAD, ring.sure(Integer.MIN_VALUE));
         due("sure(most)", NOT, ring.sure(Integer.MAX_VALUE));
         ring.mend(0, 2, 2);
-        rowOfSure(ring, 2, 0, 1, 0, 1);
+        sureRow(ring, 2, 0, 1, 0, 1);
         FoxHoles between = line(5);
         due("sure(-1)", 6, between.sure(-1));
         due("a set between", 1, between.sureFrom(16, 0));
@@ -671,36 +599,36 @@ public final class Promises {
         due("sure(5)", 3, between.sure(5));
         FoxHoles two = line(1);
         two.mend(0, 2, 2);
-        rowOfSure(two, 1, 0, NOT);
+        sureRow(two, 1, 0, NOT);
         FoxHoles pair = warren(2);
-        rowOfSure(pair, 2, 0, 1);
+        sureRow(pair, 2, 0, 1);
         pair.mend(0, 2, 2);
-        rowOfSure(pair, 1, 0, 1);
+        sureRow(pair, 1, 0, 1);
         pair.mend(0, 3, 3);
-        rowOfSure(pair, 3, NOT, NOT, NOT, NOT, 0, 1);
+        sureRow(pair, 3, NOT, NOT, NOT, NOT, 0, 1);
         pair.mend(0, 2, 1);
-        rowOfSure(pair, 4, NOT, NOT, 0, 1);
+        sureRow(pair, 4, NOT, NOT, 0, 1);
         pair.mend(0, 3, 127);
-        rowOfSure(pair, NOT);
+        sureRow(pair, NOT);
         pair.mend(0, 3, 0);
         pair.mend(0, 1, 1);
-        rowOfSure(pair, 1, 1);
+        sureRow(pair, 1, 1);
         pair.mend(0, 2, 2);
-        rowOfSure(pair, 1, 1, NOT);
+        sureRow(pair, 1, 1, NOT);
         pair.mend(1, 1, 1);
-        rowOfSure(pair, 0);
+        sureRow(pair, 0);
         FoxHoles still = warren(4);
-        rowOfSure(still, 4, 0, 1, 2, 3);
+        sureRow(still, 4, 0, 1, 2, 3);
         law(still, "1");
-        rowOfSure(still, NOT);
+        sureRow(still, NOT);
         law(still, "b=2");
-        rowOfSure(still, 2, 0, 2);
+        sureRow(still, 2, 0, 2);
         law(still, "b=a+1|a=3&b=3");
-        rowOfSure(still, 3, 0, 0, 3);
+        sureRow(still, 3, 0, 0, 3);
     }
 
     private static void sureFrom() {
-        promise = 15;
+        about(15);
         FoxHoles x = line(5);
         due("none", 0, x.sureFrom(0, 0));
         due("one", 1, x.sureFrom(4, 3));
@@ -724,7 +652,7 @@ public final class Promises {
     }
 
     private static void ring() {
-        promise = 16;
+        about(16);
         due("none", 0, new FoxHoles().ring());
         due("a line", 0, line(10).ring());
         due("back and forth is no ring", 0, line(2).ring());
@@ -742,7 +670,7 @@ public final class Promises {
     }
 
     private static void arms() {
-        promise = 17;
+        about(17);
         int[] spider = {1, 12, 23, 4, 45, 56, 7, 78, 89};
         FoxHoles x = warren(10, spider);
         due("one", 1, x.arms());
@@ -764,7 +692,7 @@ public final class Promises {
     }
 
     private static void toStop() {
-        promise = 18;
+        about(18);
         FoxHoles x = line(3);
         due("within 2", 0, x.toStop(2));
         due("within 1", 3, x.toStop(1));
@@ -794,7 +722,7 @@ public final class Promises {
     }
 
     private static void dogs() {
-        promise = 19;
+        about(19);
         FoxHoles x = line(4);
         due("at an end", 3, x.dogs(0));
         due("within", 2, x.dogs(1));
@@ -818,7 +746,7 @@ public final class Promises {
     }
 
     private static void kept() {
-        promise = 20;
+        about(20);
         FoxHoles x = line(5);
         due("none looked into", 31, x.kept(0));
         due("one within", 27, x.kept(4));
@@ -857,7 +785,7 @@ public final class Promises {
     }
 
     private static void likely() {
-        promise = 21;
+        about(21);
         FoxHoles x = threeInALine();
         looks(x, 0, 0, 1, 1);
         likelyIs(x, 0, 1, 4);
@@ -908,26 +836,26 @@ public final class Promises {
     }
 
     private static void luckAndMean() {
-        promise = 22;
+        about(22);
         FoxHoles x = threeInALine();
         looks(x, 0, 0, 1, 1);
         long[][] luck = {{0, 1}, {1, 4}, {1, 2}, {1, 1}};
         long[][] mean = {{NOT, NOT}, {1, 1}, {3, 2}, {9, 4}};
         for (int m = 0; m <= 3; m++) {
             for (int part = 0; part <= 1; part++) {
-                promise = 22;
+                about(22);
                 due("luck(0," + m + "," + part + ")", luck[m][part], x.luck(0, m, part));
-                promise = 23;
+                about(23);
                 due("mean(0," + m + "," + part + ")", mean[m][part], x.mean(0, m, part));
             }
         }
-        promise = 22;
+        about(22);
         due("luck of 4", LEAST, x.luck(0, 4, 0));
         due("luck of -1", LEAST, x.luck(0, -1, 0));
         due("luck, part 2", LEAST, x.luck(0, 0, 2));
         due("luck of nothing", LEAST, x.luck(1, 0, 0));
         due("luck, shelf 6", LEAST, x.luck(6, 0, 0));
-        promise = 23;
+        about(23);
         due("mean of 4", LEAST, x.mean(0, 4, 0));
         due("mean of -1", LEAST, x.mean(0, -1, 0));
         due("mean, part -1", LEAST, x.mean(0, 1, -1));
@@ -935,15 +863,15 @@ public final class Promises {
         due("mean, shelf -1", LEAST, x.mean(-1, 0, 0));
         row(x, 1, 4, 1);
         due("mean of booleans", LEAST, x.mean(1, 0, 0));
-        promise = 22;
+        about(22);
         due("luck of booleans", LEAST, x.luck(1, 0, 0));
         looks(x, 1, 0, 0, 0, 0, 0, 0, 0, 0, 0, 0, 0, 0, 0);
         due("luck of 13", LEAST, x.luck(1, 13, 0));
-        promise = 23;
+        about(23);
         due("mean of 13", LEAST, x.mean(1, 13, 0));
         x.mend(0, 3, 3);
         due("asleep for two: mean", 3, x.mean(0, 3, 0));
-        promise = 22;
+        about(22);
         due("asleep for two: luck", 1, x.luck(0, 3, 0));
         due("asleep for two: luck", 2, x.luck(0, 3, 1));
         due("asleep", 0, x.luck(0, 2, 0));
@@ -952,7 +880,7 @@ public final class Promises {
         }
         due("luck without weight", NOT, x.luck(0, 1, 0));
         due("BAD ahead of NOT", LEAST, x.luck(0, 4, 0));
-        promise = 23;
+        about(23);
         due("mean without weight", NOT, x.mean(0, 1, 0));
     }
 
@@ -967,7 +895,7 @@ public final class Promises {
     }
 
     private static void luckiest() {
-        promise = 24;
+        about(24);
         FoxHoles x = threeInALine();
         luckiestIs(x, 1, 2, 1);
         luckiestIs(x, 1, 1, 1, 1);
@@ -1000,12 +928,8 @@ public final class Promises {
         luckiestIs(like, 5, 6, 0);
     }
 
-    private static int step(int z) {
-        return z * 1103515245 + 12345;
-    }
-
     private static void drawn() {
-        promise = 25;
+        about(25);
         FoxHoles x = line(1);
         looks(x, 0, 0);
         due("all are caught", 60, x.drawn(0, 1, 6001, 0));
@@ -1015,7 +939,7 @@ public final class Promises {
         int z = 77;
         int inOne = 0;
         for (int i = 0; i < 40; i++) {
-            z = step(z);
+            z = draw(z);
             inOne += (z >>> 8) % 3 >= 1 ? 1 : 0;
         }
         due("by weights", inOne, two.drawn(0, 77, 4001, 0));
@@ -1025,10 +949,10 @@ public final class Promises {
         z = 77;
         int mornings = 0;
         for (int i = 0; i < 40; i++) {
-            z = step(z);
+            z = draw(z);
             boolean first = (z >>> 8) % 3 >= 1;
             mornings += first ? 1 : 2;
-            z = first ? z : step(z);
+            z = first ? z : draw(z);
         }
         due("a night is drawn, though to one only", mornings, two.drawn(0, 77, 4002, 1));
         due("all", 40, two.drawn(0, 77, 4002, 0));
@@ -1060,13 +984,13 @@ public final class Promises {
     // ---- in deed
 
     private static void hideAndLook() {
-        promise = 26;
+        about(26);
         FoxHoles x = holesOf(0, 4, 0);
         x.path(1);
         x.path(12);
         due("in all open ones", 7, x.hide(3));
         due("where now", 7, x.of(0, 13));
-        promise = 27;
+        about(27);
         due("no such hole", BAD, x.look(30));
         due("no such other hole", BAD, x.look(3));
         due("below 0", BAD, x.look(-1));
@@ -1084,7 +1008,7 @@ public final class Promises {
         due("BAD ahead of STATE", BAD, x.look(33));
         due("where now", STATE, x.of(0, 13));
         due("a caught one is not in vain", 1, x.of(1, 4));
-        promise = 26;
+        about(26);
         due("hidden anew", 7, x.hide(4));
         due("day", 0, x.of(0, 12));
         due("in vain, of all hunts", 1, x.of(0, 4));
@@ -1093,7 +1017,7 @@ public final class Promises {
         x.mend(1, 1, 1);
         due("no weight", STATE, x.hide(5));
         due("the old one is there yet", 3, x.of(0, 13));
-        promise = 27;
+        about(27);
         due("stopped by now, it stays", 0, x.look(0));
         due("where now", 2, x.of(0, 13));
         due("stopped by now, it stayed", 1, x.look(10));
@@ -1127,13 +1051,13 @@ public final class Promises {
 
     /** Follows the fox by the draws as told, and looks where it is on the fifth day. */
     private static void drawnInDeed(FoxHoles x, int seed) {
-        int z = step(seed);
+        int z = draw(seed);
         int fox = (z >>> 8) % 4;
         x.hide(seed);
         for (int day = 0; day < 5; day++) {
             due("not there", 0, x.look((fox + 1) % 4 * 11));
             int ways = x.of(fox, 3);
-            z = step(z);
+            z = draw(z);
             int draw = (z >>> 8) % Integer.bitCount(ways);
             for (int i = 0; i < draw; i++) {
                 ways &= ways - 1;
@@ -1144,12 +1068,12 @@ public final class Promises {
     }
 
     private static void imageAndBack() {
-        promise = 29;
+        about(29);
         FoxHoles x = line(3);
         due("there is none", STATE, x.back());
-        promise = 28;
+        about(28);
         due("nothing is hidden", NOT, x.image());
-        promise = 29;
+        about(29);
         x.mend(0, 0, 0);
         x.mend(2, 0, 0);
         x.hide(1);
@@ -1157,12 +1081,12 @@ public final class Promises {
         due("where now", STATE, x.of(0, 13));
         x.hide(1);
         x.look(0);
-        promise = 28;
+        about(28);
         due("day", 1, x.image());
         due("not there", 0, x.look(11));
         due("there", 1, x.look(11));
         due("caught", 1, x.of(0, 14));
-        promise = 29;
+        about(29);
         due("laid back", 1, x.back());
         due("caught", 0, x.of(0, 14));
         due("day", 1, x.of(0, 12));
@@ -1196,7 +1120,7 @@ public final class Promises {
     }
 
     private static void undoAndRedo() {
-        promise = 30;
+        about(30);
         FoxHoles x = line(3);
         due("none", STATE, x.undo());
         x.mend(1, 0, 4);
@@ -1214,7 +1138,7 @@ public final class Promises {
         due("undo", 0, x.undo());
         due("weight", 1, x.of(1, 0));
         due("no more", STATE, x.undo());
-        promise = 31;
+        about(31);
         due("redo", 3, x.redo());
         due("weight", 4, x.of(1, 0));
         due("redo", 2, x.redo());
@@ -1232,14 +1156,14 @@ public final class Promises {
         for (int i = 0; i < 45; i++) {
             many.mend(0, 0, i % 2 == 0 ? 5 : 6);
         }
-        promise = 30;
+        about(30);
         due("40 are kept", 40, many.count(4));
         for (int i = 39; i >= 0; i--) {
             due("undo", i, many.undo());
         }
         due("no more", STATE, many.undo());
         due("as behind the fifth", 5, many.of(0, 0));
-        promise = 31;
+        about(31);
         for (int i = 39; i >= 0; i--) {
             due("redo", i, many.redo());
         }
@@ -1264,7 +1188,7 @@ public final class Promises {
     }
 
     private static void manyChanges() {
-        promise = 30;
+        about(30);
         FoxHoles x = line(3);
         int[][] all = new int[61][];
         all[0] = told(x);
@@ -1281,7 +1205,7 @@ public final class Promises {
             sameTold(all[i], told(x));
         }
         due("no more", STATE, x.undo());
-        promise = 31;
+        about(31);
         for (int i = 21; i <= 60; i++) {
             due("redo", 60 - i, x.redo());
             sameTold(all[i], told(x));
@@ -1292,10 +1216,10 @@ public final class Promises {
     // ---- acts, shelves
 
     private static void actIs(FoxHoles x, int body, int act, int in, int out, int... trace) {
-        promise = 33;
+        about(33);
         due("act(" + body + "," + act + "," + in + ")", out, x.act(body, act, in));
         due("how many ran", trace.length, x.count(6));
-        promise = 34;
+        about(34);
         for (int i = 0; i < trace.length; i++) {
             due("trace(" + i + ") of act(" + body + "," + act + ")", trace[i], x.trace(i));
         }
@@ -1304,7 +1228,7 @@ public final class Promises {
     }
 
     private static void bodies() {
-        promise = 32;
+        about(32);
         FoxHoles x = new FoxHoles();
         due("kind -1", BAD, x.body(-1));
         due("kind 8", BAD, x.body(8));
@@ -1338,7 +1262,7 @@ public final class Promises {
         actIs(x, 0, 4, 1, 0);
         actIs(x, -1, 0, 1, 0);
         actIs(x, 0, -1, 1, 0);
-        promise = 32;
+        about(32);
         for (int i = 8; i < 50; i++) {
             due("body", i, x.body(0));
         }
@@ -1349,7 +1273,7 @@ public final class Promises {
     }
 
     private static void keepAndRow() {
-        promise = 35;
+        about(35);
         FoxHoles x = new FoxHoles();
         x.body(3);
         due("keep", 1, x.keep(0, 0));
@@ -1360,7 +1284,7 @@ public final class Promises {
         due("body -2", BAD, x.keep(0, -2));
         due("shelf 6", BAD, x.keep(6, 0));
         due("shelf -1", BAD, x.keep(-1, -1));
-        promise = 36;
+        about(36);
         due("row", 1, x.row(0, 0, 60));
         due("its last", 0, x.element(0, 59));
         due("behind it", LEAST, x.element(0, 60));
@@ -1389,17 +1313,17 @@ public final class Promises {
         long v = 0x123456789abcdef0L | 1L << 63;
         long[] cut = {(byte) 0xf0, (short) 0xdef0, 0x9abcdef0, v, 1};
         for (int sort = 0; sort < 5; sort++) {
-            promise = 36;
+            about(36);
             due("row", 1, x.row(sort, sort, 3));
             due("0 at first", 0, x.element(sort, 1));
-            promise = 37;
+            about(37);
             due("put", 1, x.put(sort, 1, v));
-            promise = 38;
+            about(38);
             due("element of sort " + sort, cut[sort], x.element(sort, 1));
             due("beside it", 0, x.element(sort, 0));
             due("beside it", 0, x.element(sort, 2));
         }
-        promise = 37;
+        about(37);
         due("a boolean of 256", 1, x.put(4, 0, 256));
         due("is 1", 1, x.element(4, 0));
         due("a boolean of 0", 1, x.put(4, 0, 0));
@@ -1412,7 +1336,7 @@ public final class Promises {
         x.body(0);
         x.keep(5, 0);
         due("a body", -12, x.put(5, 9, 1));
-        promise = 38;
+        about(38);
         due("place 3", LEAST, x.element(0, 3));
         due("place -1", LEAST, x.element(0, -1));
         due("a body", LEAST, x.element(5, 0));
@@ -1429,7 +1353,7 @@ public final class Promises {
     }
 
     private static void shift() {
-        promise = 39;
+        about(39);
         FoxHoles x = new FoxHoles();
         row(x, 0, 0, 1, 2, 3, 4, 5);
         row(x, 1, 0, 9, 9, 9);
@@ -1466,7 +1390,7 @@ public final class Promises {
     }
 
     private static void taken() {
-        promise = 40;
+        about(40);
         int[][] above = {{0}, {1, 0}, {2, 0}, {3, 2, 0}, {4, 1, 0}, {5, 3, 2, 0}, {6, 0}, {7, 4, 1, 0}};
         FoxHoles x = new FoxHoles();
         for (int kind = 0; kind < 8; kind++) {
@@ -1491,7 +1415,7 @@ public final class Promises {
     }
 
     private static void count() {
-        promise = 41;
+        about(41);
         FoxHoles x = line(4);
         x.mend(1, 1, 1);
         x.feed('a');

@@ -511,6 +511,17 @@ public final class PromiseEdges extends Sentences {
         due("no look", NOT, x.sure(1));
         due("the first look", 0, x.sure(2));
         due("the last look", 9, x.sure(11));
+        FoxHoles grown = warren(2);
+        due("of two holes", 2, grown.sure(-1));
+        grown.mend(0, 0, 5);
+        grown.hole(1);
+        due("of three, behind a change and a hole", 3, grown.sure(-1));
+        grown.path(1);
+        grown.undo();
+        due("behind a path and an undo", 3, grown.sure(-1));
+        due("its first look", 0, grown.sure(0));
+        grown.mend(2, 1, 1);
+        due("behind one stopped", 2, grown.sure(-1));
         says(14, "BAD; NOT: never.");
         due("-2", BAD, x.sure(-2));
         due("least", BAD, x.sure(LEAST_INT));
@@ -774,6 +785,10 @@ public final class PromiseEdges extends Sentences {
         x.mend(0, 0, 0);
         x.mend(1, 0, 9);
         due("1, look 0, with others", 1, x.luckiest(1, 0));
+        x.mend(1, 0, 0);
+        x.hole(9);
+        due("1, look 0, behind a change and a hole", 5, x.luckiest(1, 0));
+        x.mend(5, 0, 0);
         says(24, "Long.MIN_VALUE: BAD;");
         for (int m = 1; m <= 4; m++) {
             due(m + ", look " + m, LEAST, x.luckiest(m, m));

@@ -1378,13 +1378,12 @@ public final class FoxHoles {
                 trail[queue[i]] = 0;
             }
             queued = 0;
-            int week = warren.sleep == 0 ? 1 : WEEK;
-            reach(day % week * SETS + from, 0);
+            reach(weekday(day) * SETS + from, 0);
             int head = 0;
             for (int morning = 1; morning <= limit && head < queued; morning++) {
                 int layer = queued;
                 for (; head < layer; head++) {
-                    if (goOnFrom(queue[head], week)) {
+                    if (goOnFrom(queue[head])) {
                         return morning;
                     }
                 }
@@ -1392,10 +1391,15 @@ public final class FoxHoles {
             return NOT;
         }
 
+        /** Without sleep all days are alike, and one stands for all of them. */
+        private int weekday(int day) {
+            return warren.sleep == 0 ? 0 : day % WEEK;
+        }
+
         /** Tries all looks of a morning; true: one leaves nowhere to be. */
-        private boolean goOnFrom(int state, int week) {
+        private boolean goOnFrom(int state) {
             int day = state / SETS;
-            int base = (day + 1) % week * SETS;
+            int base = weekday(day + 1) * SETS;
             int set = state % SETS;
             int step = state * ACTIONS;
             if (warren.sleepsOn(day)) {
